@@ -715,12 +715,13 @@ public final class UnitSums {
             if (above <= 0) {
                 return;
             }
+            int first = greatest(packed) + 1;
             if (left <= 1) {
-                end(n, packed, above, below);
+                end(n, packed, first, above, below);
                 return;
             }
             // A term as great as all that is left would leave nothing for the others.
-            long least = Math.max(greatest(packed) + 1, below / above + 1);
+            long least = Math.max(first, below / above + 1);
             for (long number = least; number <= MOST_BOUND; number++) {
                 // The others are smaller than this term: from here on all together fall short.
                 if (number * above >= left * below) {
@@ -735,12 +736,12 @@ public final class UnitSums {
         }
 
         /** The last number is given by what is left: it is kept, if it is one. */
-        private void end(int n, int packed, long above, long below) {
+        private void end(int n, int packed, int first, long above, long below) {
             if (above <= 0 || below % above != 0 || amounts[n] >= MOST_SUMS) {
                 return;
             }
             long last = below / above;
-            if (last > greatest(packed) && last <= MOST_BOUND) {
+            if (last >= first && last <= MOST_BOUND) {
                 found[n][amounts[n]] = packed << BITS | (int) last;
                 amounts[n]++;
             }
