@@ -78,6 +78,9 @@ public final class FaceTest {
             is(one + " is static", Modifier.isStatic(one.getModifiers()));
             is(one + " is not public", !Modifier.isPublic(one.getModifiers()) && !Modifier.isProtected(one.getModifiers()));
             fields(one);
+            for (Method method : one.getDeclaredMethods()) {
+                is(method + " bears no public name", !FACE.matches("(.*,)?" + Pattern.quote(method.getName()) + " .*"));
+            }
         }
     }
 

@@ -352,7 +352,7 @@ public final class PromiseTest {
         due("5 and 20: 4 is in another", STATE, x.joins(2, 4));
         due("3 and 6", 2, x.joins(0, 3));
         terms("in order", x, 2, 4, 5, 20);
-        // 865830 and 931 are 930: their product is far above an int.
+        // 865830 and 931 are 930.
         x = told("p1 30;s30;");
         x.splits(0, 0);
         x.splits(1, 0);
