@@ -268,6 +268,9 @@ public final class SumBoundaryTest {
             .sum(3, 12, 14, 21).is(2, "makes 2").sum(2, 28);
         // 29 by 28: five have the least bound, and there are two such sums.
         of(29, 28).is(21, "bound 5").is(2, "sums 5 21").is(2, "makes 2").sum(1, 28).is(5, "makes 3").sum(2, 3, 12, 14, 21);
+        // Five, none of them small.
+        of(18, 55).is(5, "makes 2").sum(5, 22, 30, 33, 55).is(5, "makes 3").sum(10, 11, 12, 33, 44);
+        of(21, 55).is(3, "makes 2").sum(3, 33, 55).is(5, "makes 3").sum(4, 22, 30, 33, 44);
         of(2, 45).is(2, "makes 3").sum(36, 60);
         of(1, 60).is(1, "makes 3").sum(60);
     }
@@ -328,7 +331,7 @@ public final class SumBoundaryTest {
         run(SIX).is(7, "splits 5 0").sum(3, 4, 6, 10, 12, 16, 240);
     }
 
-    // "each is 1000000 at most": no splits come nearer to it than these, or hardly.
+    // "each is 1000000 at most": no split makes 1000000 itself; these are the nearest that a search met.
     private static void splitsTo1000000() {
         Run one = of(33, 74).is(3, "makes 0").sum(3, 9, 666).is(4, "split 666 1").is(5, "split 999 0");
         one.sum(3, 9, 1000, 1998, 999000);
