@@ -702,7 +702,7 @@ public final class UnitSums {
             if (!sought[n]) {
                 sought[n] = true;
                 amounts[n] = 0;
-                extend(n, n, 0, p, q);
+                extend(this, n, n, 0, p, q);
             }
             return amounts[n];
         }
@@ -711,13 +711,13 @@ public final class UnitSums {
          * Finds all that makes a beginning, packed, a sum of n. What the numbers still to come (left of them)
          * must be is above by below: five numbers to 60 keep both far within a long.
          */
-        private void extend(int n, int left, int packed, long above, long below) {
+        private static void extend(Finder finder, int n, int left, int packed, long above, long below) {
             if (above <= 0) {
                 return;
             }
             int first = greatest(packed) + 1;
             if (left <= 1) {
-                end(n, packed, first, above, below);
+                finder.end(n, packed, first, above, below);
                 return;
             }
             // A term as great as all that is left would leave nothing for the others.
@@ -730,7 +730,7 @@ public final class UnitSums {
                 long rest = number * above - below;
                 // If less is left than the smallest terms there are, a greater number may leave enough.
                 if (rest * MOST_BOUND >= (left - 1) * below * number) {
-                    extend(n, left - 1, packed << BITS | (int) number, rest, below * number);
+                    extend(finder, n, left - 1, packed << BITS | (int) number, rest, below * number);
                 }
             }
         }

@@ -9,7 +9,7 @@ import java.util.TreeSet;
 import java.util.regex.Matcher;
 import java.util.regex.Pattern;
 
-/** The face of the class, and the rules of the language that can be seen from its text. Runs in the project's folder. */
+/** The face of the class: by reflection, and word for word as the document has it. Runs in the project's folder. */
 public final class FaceTest {
     private static final Check CHECK = new Check();
     private static final String FACE = "type 1,clear 0,fraction 0,makes 1,splits 2,joins 2,undo 0,term 1,greedy 2,sums 2,"
@@ -19,7 +19,10 @@ public final class FaceTest {
         face();
         constants();
         classesInside();
-        text(Files.readString(Path.of("src/main/java/UnitSums.java")));
+        String source = Files.readString(Path.of("src/main/java/UnitSums.java"));
+        String document = Files.readString(Path.of("../shared/DOC.md"));
+        wordForWord(source, document);
+        headings(source, document);
         CHECK.end("FaceTest");
     }
 
@@ -84,34 +87,40 @@ public final class FaceTest {
         }
     }
 
-    private static void text(String source) {
-        String code = source.replaceAll("(?s)/\\*.*?\\*/", " ").replaceAll("//[^\n]*", " ");
-        String[] words = {"throw", "throws", "try", "catch", "synchronized", "assert", "package", "import", "new Thread",
-            "hashCode", "toString", "float", "double"};
-        for (String word : words) {
-            is("no " + word, !Pattern.compile("\\b" + word + "\\b").matcher(code).find());
+    /** Each line of the document's face stands in the source, in that order, and nothing else is public. */
+    private static void wordForWord(String source, String document) {
+        String face = document.split("```java\n")[1].split("```")[0];
+        String[] lines = face.split("\n");
+        int publics = 0;
+        int place = 0;
+        for (String line : lines) {
+            if (!line.contains("public")) continue;
+            publics++;
+            String want = line.endsWith(");") ? line.replace(");", ") {") : line;
+            int found = source.indexOf("\n" + want + "\n", place);
+            is("word for word: " + line, found >= 0);
+            if (found >= 0) place = found;
         }
-        is("no lambda", !code.contains("->"));
-        is("no method reference", !code.contains("::"));
-        is("no static block", !Pattern.compile("static\\s*\\{").matcher(code).find());
-        for (int i = 0; i < source.length(); i++) {
-            if (source.charAt(i) > 126) is("letters to 126 alone", false);
-        }
-        Matcher method = Pattern.compile("\\(([^()]*)\\) \\{").matcher(code);
-        while (method.find()) is(method.group(1) + ": seven parameters at most", method.group(1).split(",").length <= 7);
-        lengths(code);
+        is("the document's face has a class, constants, a constructor and 23 methods", publics == 26);
+        Matcher all = Pattern.compile("(?m)^ *public\\b").matcher(source);
+        int found = 0;
+        while (all.find()) found++;
+        CHECK.due("what is public", publics, found);
     }
 
-    /** Methods stay short: in this file they begin with a brace at a line's end and end with one below their beginning. */
-    private static void lengths(String code) {
-        String[] lines = code.split("\n");
-        Pattern head = Pattern.compile("( +)(public|private|static|boolean|int|long|void|Row|[A-Z]\\w+\\()[^;=]*\\) \\{");
-        for (int i = 0; i < lines.length; i++) {
-            Matcher matcher = head.matcher(lines[i]);
-            if (!matcher.matches()) continue;
-            int end = i;
-            while (end < lines.length && !lines[end].equals(matcher.group(1) + "}")) end++;
-            is(lines[i].trim() + " is short", end - i < 60);
+    /** "Ahead of the calls .. the interface says: ---- ..": the nearest such line ahead of each call. */
+    private static void headings(String source, String document) {
+        Matcher ahead = Pattern.compile("Ahead of the calls (.*) the interface says: (----.*)\\.").matcher(document);
+        int calls = 0;
+        while (ahead.find()) {
+            for (String call : ahead.group(1).replace("`", "").split(", ")) {
+                int place = source.indexOf("    public int " + call + "(");
+                int line = source.lastIndexOf("// ----", Math.max(0, place));
+                boolean so = place > 0 && line > 0 && source.startsWith("// " + ahead.group(2) + "\n", line);
+                is(ahead.group(2) + " ahead of " + call, so);
+                calls++;
+            }
         }
+        CHECK.due("calls below a heading", 23, calls);
     }
 }
